@@ -46,8 +46,8 @@ public final class HintPlacer {
     private static final int OFF_ANCHORS = 4;
     private static final int SETTINGS = 5;
 
+    // The sides go clockwise; the one right of the anchor is 1.
     private static final int ABOVE = 0;
-    private static final int RIGHT = 1;
     private static final int BELOW = 2;
     private static final int LEFT = 3;
     private static final int SIDES = 4;
@@ -97,7 +97,7 @@ public final class HintPlacer {
         history.record(state);
         state.put(VIEW_WIDTH, width);
         state.put(VIEW_HEIGHT, height);
-        return showAgain();
+        return showing.arrange(state);
     }
 
     public int scroll(int dx, int dy) {
@@ -109,7 +109,7 @@ public final class HintPlacer {
         }
         history.record(state);
         moveView(dx, dy);
-        return showAgain();
+        return showing.arrange(state);
     }
 
     public int anchor(int x, int y, int width, int height) {
@@ -129,7 +129,7 @@ public final class HintPlacer {
         state.putAnchorValue(number, Y, y);
         state.putAnchorValue(number, ANCHOR_WIDTH, width);
         state.putAnchorValue(number, ANCHOR_HEIGHT, height);
-        showAgain();
+        showing.arrange(state);
         return number;
     }
 
@@ -140,7 +140,7 @@ public final class HintPlacer {
         history.record(state);
         state.putAnchorValue(anchor, X, x);
         state.putAnchorValue(anchor, Y, y);
-        return showAgain();
+        return showing.arrange(state);
     }
 
     public int anchorOf(int anchor, int what) {
@@ -171,7 +171,7 @@ public final class HintPlacer {
         int previous = state.setting(what);
         history.record(state);
         state.put(FIRST_SETTING + what, value);
-        showAgain();
+        showing.arrange(state);
         return previous;
     }
 
@@ -237,7 +237,7 @@ public final class HintPlacer {
         state.putHintValue(number, PRIORITY, 0);
         state.putHintValue(number, OPENING, NOT_OPENED);
         state.putHintValue(number, REMEMBERED, NO_SIDE);
-        showAgain();
+        showing.arrange(state);
         return number;
     }
 
@@ -254,7 +254,7 @@ public final class HintPlacer {
         if (what == ANCHOR || what == SIDE) {
             state.putHintValue(hint, REMEMBERED, NO_SIDE);
         }
-        showAgain();
+        showing.arrange(state);
         return previous;
     }
 
@@ -267,8 +267,8 @@ public final class HintPlacer {
         }
         history.record(state);
         openHint(hint);
-        showAgain();
-        return showing.reasons[hint];
+        showing.arrange(state);
+        return showing.reasons.get(hint);
     }
 
     public int close(int hint) {
@@ -280,13 +280,13 @@ public final class HintPlacer {
         }
         history.record(state);
         closeHint(hint);
-        return showAgain();
+        return showing.arrange(state);
     }
 
     public int settle() {
         history.record(state);
         int changed = rememberSides();
-        showAgain();
+        showing.arrange(state);
         return changed;
     }
 
@@ -298,7 +298,7 @@ public final class HintPlacer {
             return state.hintValue(hint, what);
         }
         if (what == 8) {
-            return showing.reasons[hint];
+            return showing.reasons.get(hint);
         }
         if (what == 15) {
             int side = state.hintValue(hint, REMEMBERED);
@@ -307,7 +307,7 @@ public final class HintPlacer {
         if (what == 16) {
             return state.isOpen(hint) ? state.turn(hint) : NOT_FOUND;
         }
-        return showing.reasons[hint] == SHOWN ? shownValue(hint, what) : NOT_FOUND;
+        return showing.reasons.get(hint) == SHOWN ? shownValue(hint, what) : NOT_FOUND;
     }
 
     public int room(int hint, int side) {
@@ -370,7 +370,7 @@ public final class HintPlacer {
             return NOT_POSSIBLE;
         }
         history.restore(state);
-        showAgain();
+        showing.arrange(state);
         return history.states;
     }
 
@@ -415,10 +415,11 @@ public final class HintPlacer {
             if (!orders.read(next) || !carryOrder()) {
                 break;
             }
+            // An order to settle goes by what is shown right before it.
+            showing.arrange(state);
             next = orders.end;
             carried++;
         }
-        showAgain();
         return carried;
     }
 
@@ -513,19 +514,14 @@ public final class HintPlacer {
     private int rememberSides() {
         int changed = 0;
         for (int hint = 0; hint < state.get(HINTS); hint++) {
-            if (showing.reasons[hint] == SHOWN) {
-                if (state.hintValue(hint, REMEMBERED) != showing.sides[hint]) {
+            if (showing.reasons.get(hint) == SHOWN) {
+                if (state.hintValue(hint, REMEMBERED) != showing.sides.get(hint)) {
                     changed++;
                 }
-                state.putHintValue(hint, REMEMBERED, showing.sides[hint]);
+                state.putHintValue(hint, REMEMBERED, showing.sides.get(hint));
             }
         }
         return changed;
-    }
-
-    private int showAgain() {
-        showing.arrange(state);
-        return showing.shown;
     }
 
     /** Carries out the order that was read last, unless it is not possible. */
@@ -550,8 +546,6 @@ public final class HintPlacer {
                 moveView(orders.first, orders.second);
                 return true;
             default:
-                // The orders before it may have changed what is shown.
-                showing.arrange(state);
                 rememberSides();
                 return true;
         }
@@ -562,7 +556,7 @@ public final class HintPlacer {
     private int countHintsOf(int anchor, boolean shownOnly) {
         int many = 0;
         for (int hint = 0; hint < state.get(HINTS); hint++) {
-            boolean counts = !shownOnly || showing.reasons[hint] == SHOWN;
+            boolean counts = !shownOnly || showing.reasons.get(hint) == SHOWN;
             if (counts && state.hintValue(hint, ANCHOR) == anchor) {
                 many++;
             }
@@ -594,7 +588,7 @@ public final class HintPlacer {
     private int countCovered() {
         int points = 0;
         for (int hint = 0; hint < state.get(HINTS); hint++) {
-            if (showing.reasons[hint] == SHOWN) {
+            if (showing.reasons.get(hint) == SHOWN) {
                 points += state.hintValue(hint, WIDTH) * state.hintValue(hint, HEIGHT);
             }
         }
@@ -602,7 +596,7 @@ public final class HintPlacer {
     }
 
     private int shownValue(int hint, int what) {
-        int side = showing.sides[hint];
+        int side = showing.sides.get(hint);
         place.find(state, hint, side, state.get(VIEW_WIDTH), state.get(VIEW_HEIGHT));
         switch (what) {
             case 9:
@@ -622,7 +616,7 @@ public final class HintPlacer {
 
     private boolean isInSightOnATry(int hint, int viewWidth, int viewHeight) {
         for (int i = 0; i < tries.many; i++) {
-            place.find(state, hint, tries.sides[i], viewWidth, viewHeight);
+            place.find(state, hint, tries.sides.get(i), viewWidth, viewHeight);
             if (place.inSight) {
                 return true;
             }
@@ -661,45 +655,64 @@ public final class HintPlacer {
         return begin >= outerBegin && begin + length <= outerBegin + outerLength;
     }
 
+    /** A row of numbers with the only indexes of the program: beyond its ends it answers 0 and takes nothing. */
+    private static final class Row {
+        private final int[] cells;
+
+        Row(int length) {
+            cells = new int[Math.max(0, length)];
+        }
+
+        int get(int index) {
+            return index >= 0 && index < cells.length ? cells[index] : 0;
+        }
+
+        void put(int index, int value) {
+            if (index >= 0 && index < cells.length) {
+                cells[index] = value;
+            }
+        }
+    }
+
     /** Everything that undo brings back: one row of numbers, so that the history copies it whole. */
     private static final class State {
-        private final int[] row = new int[STATE_LENGTH];
+        private final Row row = new Row(STATE_LENGTH);
 
         State() {
-            row[VIEW_WIDTH] = 200;
-            row[VIEW_HEIGHT] = 120;
-            row[FIRST_SETTING + GAP] = 4;
-            row[FIRST_SETTING + ARROW] = 6;
-            row[FIRST_SETTING + MOST_SHOWN] = 3;
-            row[FIRST_SETTING + REMEMBERING] = 1;
+            row.put(VIEW_WIDTH, 200);
+            row.put(VIEW_HEIGHT, 120);
+            row.put(FIRST_SETTING + GAP, 4);
+            row.put(FIRST_SETTING + ARROW, 6);
+            row.put(FIRST_SETTING + MOST_SHOWN, 3);
+            row.put(FIRST_SETTING + REMEMBERING, 1);
         }
 
         int get(int cell) {
-            return row[cell];
+            return row.get(cell);
         }
 
         void put(int cell, int value) {
-            row[cell] = value;
+            row.put(cell, value);
         }
 
         int setting(int what) {
-            return row[FIRST_SETTING + what];
+            return row.get(FIRST_SETTING + what);
         }
 
         int anchorValue(int anchor, int what) {
-            return row[FIRST_ANCHOR + anchor * ANCHOR_VALUES + what];
+            return row.get(FIRST_ANCHOR + anchor * ANCHOR_VALUES + what);
         }
 
         void putAnchorValue(int anchor, int what, int value) {
-            row[FIRST_ANCHOR + anchor * ANCHOR_VALUES + what] = value;
+            row.put(FIRST_ANCHOR + anchor * ANCHOR_VALUES + what, value);
         }
 
         int hintValue(int hint, int what) {
-            return row[FIRST_HINT + hint * HINT_VALUES + what];
+            return row.get(FIRST_HINT + hint * HINT_VALUES + what);
         }
 
         void putHintValue(int hint, int what, int value) {
-            row[FIRST_HINT + hint * HINT_VALUES + what] = value;
+            row.put(FIRST_HINT + hint * HINT_VALUES + what, value);
         }
 
         boolean isOpen(int hint) {
@@ -707,7 +720,7 @@ public final class HintPlacer {
         }
 
         boolean isAnchorInSight(int anchor) {
-            return anchorMeets(anchor, row[VIEW_X], row[VIEW_Y], row[VIEW_WIDTH], row[VIEW_HEIGHT]);
+            return anchorMeets(anchor, get(VIEW_X), get(VIEW_Y), get(VIEW_WIDTH), get(VIEW_HEIGHT));
         }
 
         boolean anchorMeets(int anchor, int x, int y, int width, int height) {
@@ -718,7 +731,7 @@ public final class HintPlacer {
         /** How many open hints are gone through before an open hint. */
         int turn(int hint) {
             int before = 0;
-            for (int other = 0; other < row[HINTS]; other++) {
+            for (int other = 0; other < get(HINTS); other++) {
                 if (isOpen(other) && goesBefore(other, hint)) {
                     before++;
                 }
@@ -735,18 +748,22 @@ public final class HintPlacer {
             return hintValue(hint, OPENING) < hintValue(other, OPENING);
         }
 
-        void copyTo(int[] rows, int begin) {
-            System.arraycopy(row, 0, rows, begin, STATE_LENGTH);
+        void copyTo(Row rows, int begin) {
+            for (int cell = 0; cell < STATE_LENGTH; cell++) {
+                rows.put(begin + cell, row.get(cell));
+            }
         }
 
-        void copyFrom(int[] rows, int begin) {
-            System.arraycopy(rows, begin, row, 0, STATE_LENGTH);
+        void copyFrom(Row rows, int begin) {
+            for (int cell = 0; cell < STATE_LENGTH; cell++) {
+                row.put(cell, rows.get(begin + cell));
+            }
         }
     }
 
     /** The latest states, in a ring, so that none is moved when the oldest is dropped. */
     private static final class History {
-        private final int[] rows = new int[MOST_STATES * STATE_LENGTH];
+        private final Row rows = new Row(MOST_STATES * STATE_LENGTH);
         private int oldest;
         private int states;
 
@@ -773,7 +790,7 @@ public final class HintPlacer {
 
     /** The sides of one hint in the order in which they are tried, each once. */
     private static final class Tries {
-        private final int[] sides = new int[SIDES];
+        private final Row sides = new Row(SIDES);
         private int many;
 
         void list(State state, int hint) {
@@ -790,20 +807,18 @@ public final class HintPlacer {
             }
             if (flip == 2) {
                 add((own + 1) % SIDES);
-                add((own + 3) % SIDES);
+                add((own + SIDES - 1) % SIDES);
             }
         }
 
         private void add(int side) {
             for (int i = 0; i < many; i++) {
-                if (sides[i] == side) {
+                if (sides.get(i) == side) {
                     return;
                 }
             }
-            if (many < SIDES) {
-                sides[many] = side;
-                many++;
-            }
+            sides.put(many, side);
+            many++;
         }
     }
 
@@ -884,34 +899,37 @@ public final class HintPlacer {
 
     /** Which hints are shown and where, and why the others are not. */
     private static final class Showing {
-        private final int[] reasons = new int[MOST_HINTS];
-        private final int[] sides = new int[MOST_HINTS];
-        private final int[] xs = new int[MOST_HINTS];
-        private final int[] ys = new int[MOST_HINTS];
-        private final int[] order = new int[MOST_HINTS];
+        private final Row reasons = new Row(MOST_HINTS);
+        private final Row sides = new Row(MOST_HINTS);
+        private final Row xs = new Row(MOST_HINTS);
+        private final Row ys = new Row(MOST_HINTS);
+        private final Row order = new Row(MOST_HINTS);
         private final Tries tries = new Tries();
         private final Place place = new Place();
         private int shown;
 
-        void arrange(State state) {
+        /** Returns how many hints are shown then. */
+        int arrange(State state) {
             shown = 0;
             int open = orderOpenHints(state);
             for (int i = 0; i < open; i++) {
-                int hint = order[i];
-                reasons[hint] = tryToShow(state, hint);
-                if (reasons[hint] == SHOWN) {
+                int hint = order.get(i);
+                int reason = tryToShow(state, hint);
+                reasons.put(hint, reason);
+                if (reason == SHOWN) {
                     shown++;
                 }
             }
+            return shown;
         }
 
         /** Takes every hint for closed first: a reason of earlier would make it stand in the way. */
         private int orderOpenHints(State state) {
             int open = 0;
             for (int hint = 0; hint < state.get(HINTS); hint++) {
-                reasons[hint] = CLOSED;
+                reasons.put(hint, CLOSED);
                 if (state.isOpen(hint)) {
-                    order[state.turn(hint)] = hint;
+                    order.put(state.turn(hint), hint);
                     open++;
                 }
             }
@@ -928,12 +946,12 @@ public final class HintPlacer {
             int reason = OUT_OF_SIGHT;
             tries.list(state, hint);
             for (int i = 0; i < tries.many; i++) {
-                place.find(state, hint, tries.sides[i], state.get(VIEW_WIDTH), state.get(VIEW_HEIGHT));
+                place.find(state, hint, tries.sides.get(i), state.get(VIEW_WIDTH), state.get(VIEW_HEIGHT));
                 if (place.inSight) {
                     if (isFree(state, hint)) {
-                        sides[hint] = tries.sides[i];
-                        xs[hint] = place.x;
-                        ys[hint] = place.y;
+                        sides.put(hint, tries.sides.get(i));
+                        xs.put(hint, place.x);
+                        ys.put(hint, place.y);
                         return SHOWN;
                     }
                     reason = NOT_FREE;
@@ -963,9 +981,9 @@ public final class HintPlacer {
         /** A shown hint that has a point in common with a rectangle, or -1. */
         int shownThatMeets(State state, int x, int y, int width, int height) {
             for (int hint = 0; hint < state.get(HINTS); hint++) {
-                if (reasons[hint] == SHOWN
-                    && spansMeet(xs[hint], state.hintValue(hint, WIDTH), x, width)
-                    && spansMeet(ys[hint], state.hintValue(hint, HEIGHT), y, height)) {
+                if (reasons.get(hint) == SHOWN
+                    && spansMeet(xs.get(hint), state.hintValue(hint, WIDTH), x, width)
+                    && spansMeet(ys.get(hint), state.hintValue(hint, HEIGHT), y, height)) {
                     return hint;
                 }
             }
@@ -975,7 +993,7 @@ public final class HintPlacer {
 
     /** The text of orders, and the order in it that was read last. */
     private static final class Orders {
-        private final int[] signs = new int[MOST_SIGNS];
+        private final Row signs = new Row(MOST_SIGNS);
         private int length;
         private int begin;
         private int end;
@@ -985,10 +1003,8 @@ public final class HintPlacer {
         private int number;
 
         void append(int sign) {
-            if (length < MOST_SIGNS) {
-                signs[length] = sign;
-                length++;
-            }
+            signs.put(length, sign);
+            length++;
         }
 
         /** The reason of the fault of the text, whose order is then the one read last. */
@@ -1077,7 +1093,7 @@ public final class HintPlacer {
 
         /** The sign at a position, or 0 where the text has none. */
         private int signAt(int position) {
-            return position >= 0 && position < length ? signs[position] : 0;
+            return position < length ? signs.get(position) : 0;
         }
     }
 }

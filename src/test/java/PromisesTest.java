@@ -775,19 +775,19 @@ public final class PromisesTest {
 
     /** Each kind of change records the state before it, and undo brings back what it changed. */
     private static void undoEachChange() {
-        HintPlacer p = withAnchor();
-        p.hint(0, 20, 10, RIGHT, 0);
-        p.hint(0, 20, 10, RIGHT, 0);
-        p.open(0);
-        p.settle();
-        String before = tell(p);
         for (int change = 0; change < 11; change++) {
+            part("promise 19, change " + change);
+            HintPlacer p = withAnchor();
+            p.hint(0, 20, 10, RIGHT, 0);
+            p.hint(0, 20, 10, RIGHT, 0);
+            p.open(0);
+            String before = tell(p);
+            due(p.count(9), 4);
             doChange(p, change);
             due(p.count(9), 5);
+            due(tell(p).equals(before) ? 1 : 0, 0);
             due(p.undo(), 4);
-            part("promise 19, change " + change);
             due(tell(p).equals(before) ? 1 : 0, 1);
-            p.set(0, 4);
         }
         part("promise 19");
     }
