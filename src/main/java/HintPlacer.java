@@ -94,7 +94,7 @@ public final class HintPlacer {
         if (!isViewSize(width) || !isViewSize(height)) {
             return INVALID_ARGUMENT;
         }
-        history.record(state);
+        history.keep(state);
         state.put(VIEW_WIDTH, width);
         state.put(VIEW_HEIGHT, height);
         return showing.arrange(state);
@@ -107,7 +107,7 @@ public final class HintPlacer {
         if (!canMoveView(dx, dy)) {
             return NOT_POSSIBLE;
         }
-        history.record(state);
+        history.keep(state);
         moveView(dx, dy);
         return showing.arrange(state);
     }
@@ -123,7 +123,7 @@ public final class HintPlacer {
         if (number >= MOST_ANCHORS) {
             return LIMIT_REACHED;
         }
-        history.record(state);
+        history.keep(state);
         state.put(ANCHORS, number + 1);
         state.putAnchorValue(number, X, x);
         state.putAnchorValue(number, Y, y);
@@ -137,7 +137,7 @@ public final class HintPlacer {
         if (!isAnchor(anchor) || !isWithin(x, FARTHEST_ANCHOR) || !isWithin(y, FARTHEST_ANCHOR)) {
             return INVALID_ARGUMENT;
         }
-        history.record(state);
+        history.keep(state);
         state.putAnchorValue(anchor, X, x);
         state.putAnchorValue(anchor, Y, y);
         return showing.arrange(state);
@@ -169,7 +169,7 @@ public final class HintPlacer {
             return INVALID_ARGUMENT;
         }
         int previous = state.setting(what);
-        history.record(state);
+        history.keep(state);
         state.put(FIRST_SETTING + what, value);
         showing.arrange(state);
         return previous;
@@ -225,7 +225,7 @@ public final class HintPlacer {
         if (number >= MOST_HINTS) {
             return LIMIT_REACHED;
         }
-        history.record(state);
+        history.keep(state);
         state.put(HINTS, number + 1);
         state.putHintValue(number, ANCHOR, anchor);
         state.putHintValue(number, WIDTH, width);
@@ -249,7 +249,7 @@ public final class HintPlacer {
             return INVALID_ARGUMENT;
         }
         int previous = state.hintValue(hint, what);
-        history.record(state);
+        history.keep(state);
         state.putHintValue(hint, what, value);
         if (what == ANCHOR || what == SIDE) {
             state.putHintValue(hint, REMEMBERED, NO_SIDE);
@@ -265,7 +265,7 @@ public final class HintPlacer {
         if (state.isOpen(hint)) {
             return NOT_POSSIBLE;
         }
-        history.record(state);
+        history.keep(state);
         openHint(hint);
         showing.arrange(state);
         return showing.reasons.get(hint);
@@ -278,13 +278,13 @@ public final class HintPlacer {
         if (!state.isOpen(hint)) {
             return NOT_POSSIBLE;
         }
-        history.record(state);
+        history.keep(state);
         closeHint(hint);
         return showing.arrange(state);
     }
 
     public int settle() {
-        history.record(state);
+        history.keep(state);
         int changed = rememberSides();
         showing.arrange(state);
         return changed;
@@ -408,7 +408,7 @@ public final class HintPlacer {
         if (orders.findFault(state.get(HINTS)) != NO_FAULT) {
             return NOT_POSSIBLE;
         }
-        history.record(state);
+        history.keep(state);
         int carried = 0;
         int next = 0;
         while (carried < MOST_SIGNS && next < orders.length) {
@@ -767,7 +767,7 @@ public final class HintPlacer {
         private int oldest;
         private int states;
 
-        void record(State state) {
+        void keep(State state) {
             if (states == MOST_STATES) {
                 oldest = (oldest + 1) % MOST_STATES;
                 states--;
