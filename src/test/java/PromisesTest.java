@@ -886,7 +886,18 @@ public final class PromisesTest {
         due(p.count(9), 0);
     }
 
-    private static void dueFault(HintPlacer p, String text, int position, int reason) {
+    /** None of the orders of the tests is possible here: the view is at its end, and the hint is closed. */
+    private static HintPlacer atEndWithHint() {
+        HintPlacer p = withAnchor();
+        p.scroll(1000, 0);
+        p.scroll(1000, 0);
+        p.hint(0, 10, 10, 0, 0);
+        return p;
+    }
+
+    /** A new object for each text: after 512 calls its answers are free. */
+    private static void dueFault(String text, int position, int reason) {
+        HintPlacer p = atEndWithHint();
         write(p, text);
         String before = part;
         part = before + " \"" + text + "\"";
@@ -898,39 +909,35 @@ public final class PromisesTest {
 
     private static void promise22Fault() {
         part("promise 22");
-        HintPlacer p = withAnchor();
-        p.scroll(1000, 0);
-        p.scroll(1000, 0);
-        p.hint(0, 10, 10, 0, 0);
+        HintPlacer p = atEndWithHint();
         int[] bad = {-1, 2, LOW, HIGH};
         for (int what : bad) {
             due(p.fault(what), INVALID);
         }
         due(p.fault(0), NONE);
         due(p.fault(1), NONE);
-        // None of these is possible: the view is at its end, and the hint is closed.
         String[] good = {"", "c0;", "c00;", "v1,1;", "v001,-000;", "v999,999;", "c0;o0;t;v-1,-999;"};
         for (String text : good) {
-            dueFault(p, text, NONE, NONE);
+            dueFault(text, NONE, NONE);
         }
         String[] badForm = {";", "o", "o0", "o;", "o000;", "o-1;", "o 0;", " o0;", "O0;", "0;", "oo0;", "o0 ;", "c", "c0", "c;",
             "t", "t0;", "tt;", "t ;", "v", "v;", "v1;", "v1,;", "v,1;", "v1,1", "v1,1,1;", "v1000,1;", "v1,1000;", "v--1,1;",
             "v+1,1;", "v-,1;", "v1,-;", "v1 ,1;", "v1;1;", "x;", "~", "o99", "o1:", "o/;", "v1.1;"};
         for (String text : badForm) {
-            dueFault(p, text, 0, 1);
-            dueFault(p, "t;" + text, 2, 1);
-            dueFault(p, "c0;v-10,5;t;" + text, 12, 1);
+            dueFault(text, 0, 1);
+            dueFault("t;" + text, 2, 1);
+            dueFault("c0;v-10,5;t;" + text, 12, 1);
         }
         String[] noHint = {"o1;", "c1;", "o01;", "o12;", "c99;"};
         for (String text : noHint) {
-            dueFault(p, text, 0, 2);
-            dueFault(p, "o0;" + text, 3, 2);
-            dueFault(p, "o0;" + text + "x", 3, 2);
+            dueFault(text, 0, 2);
+            dueFault("o0;" + text, 3, 2);
+            dueFault("o0;" + text + "x", 3, 2);
         }
-        dueFault(p, "x;o1;", 0, 1);
-        dueFault(p, "t;;o1;", 2, 1);
-        dueFault(p, "tttttttttttttttttttttttttttttttttttttttttttttttttttttttttttt", 0, 1);
-        dueFault(p, "t;t;t;t;t;t;t;t;t;t;t;t;t;t;t;t;t;t;t;t;t;t;t;t;t;t;t;t;t;t", 58, 1);
+        dueFault("x;o1;", 0, 1);
+        dueFault("t;;o1;", 2, 1);
+        dueFault("tttttttttttttttttttttttttttttttttttttttttttttttttttttttttttt", 0, 1);
+        dueFault("t;t;t;t;t;t;t;t;t;t;t;t;t;t;t;t;t;t;t;t;t;t;t;t;t;t;t;t;t;t", 58, 1);
         write(p, "o1;");
         due(p.hint(0, 1, 1, 0, 0), 1);
         due(p.fault(0), NONE);
